@@ -910,7 +910,7 @@ public final class SiegePlate {
             while (d > 0 && rationOf(row, days, d) == 0) {
                 d--;
             }
-            return row == 0 ? 0 : d;
+            return d;
         }
 
         private void compareRow(int row, Camp end) {

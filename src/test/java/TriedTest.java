@@ -39,6 +39,8 @@ public final class TriedTest {
         CHECK.tried("within a day", x, () -> x.promise(0, 1), 2310);
         // left: 670000, 448900, 300763, 201511.21 cut
         CHECK.tried("within 4: 7 x 798489", x, () -> x.promise(0, 4), 5589);
+        // cut each day 60606 are left behind 7 days, cut at the end 60607 would be
+        CHECK.tried("within 7", x, () -> x.promise(1, 7), 93000);
         CHECK.tried("the second money", x, () -> x.promise(1, 1), 32670);
         CHECK.tried("within 60 no more than the stamp", x, () -> x.promise(1, 60), 99000);
         CHECK.refused("n 61", x, () -> x.promise(1, 61), Check.OUTSIDE);
@@ -88,18 +90,12 @@ public final class TriedTest {
     }
 
     private static void rationsByBurningFood() {
-        // with 24 left company 0 would eat it all; with 4 less, the four companies behind it are fed
-        SiegePlate x = Check.townOf("t34 0;c12 0 9;c2 0 1;c2 0 1;c2 0 1;c2 0 1;");
-        Model model = new Model();
-        for (char letter : "t34 0;c12 0 9;c2 0 1;c2 0 1;c2 0 1;c2 0 1;".toCharArray()) {
-            model.feed(letter);
-        }
-        model.town();
-        for (int n = 1; n <= 4; n++) {
-            for (int i = -1; i < n; i++) {
-                CHECK.due("burnt rations(" + n + ", " + i + ")", x.rations(n, i), model.rations(n, i));
-            }
-        }
+        // on the second day by 3 company 0 eats 6 of 13, company 1 bears it, and 7 are left: by 2 only 1
+        SiegePlate second = Check.townOf("t25 0;c2 0 0;c4 0 1;");
+        row(second, 2, 6, 2, 3);
+        // a first day by 1 burns 7 of 26, so that on the third company 0 bears it and 3 are left, not 2
+        SiegePlate first = Check.townOf("t26 0;c4 0 1;c3 0 0;");
+        row(first, 3, 6, 1, 2, 2);
     }
 
     private static void rationsRefused() {
@@ -219,6 +215,12 @@ public final class TriedTest {
         CHECK.tried("1 for 30", x, () -> x.bought(1, 3), 97);
         CHECK.tried("1 for 31 never", x, () -> x.bought(3, 3), Check.NONE);
         CHECK.tried("99 for 99", x, () -> x.bought(2, 4), 0);
+        // 3 at hunger 99 is 92.1; 93 would be hunger 100
+        SiegePlate hungriest = Check.townOf("t0 0;m1 92 0;m1 93 0;g3;");
+        CHECK.tried("3 for 92", hungriest, () -> hungriest.bought(0, 0), 99);
+        CHECK.tried("a set of it", hungriest, () -> hungriest.bought(0, Check.NONE), 1);
+        CHECK.tried("3 for 93", hungriest, () -> hungriest.bought(1, 0), Check.NONE);
+        CHECK.tried("an empty set", hungriest, () -> hungriest.bought(1, Check.NONE), 0);
         CHECK.refused("money 4", x, () -> x.bought(4, 0), Check.UNKNOWN);
         CHECK.refused("money -1", x, () -> x.bought(-1, 0), Check.UNKNOWN);
         CHECK.refused("good 5", x, () -> x.bought(0, 5), Check.UNKNOWN);
