@@ -22,6 +22,7 @@ public final class DoneEdgesTest {
         theDrawsWrapAround();
         driftIsUndoneAtOnce();
         undoneOfEachKind();
+        undoneOfAllThereCanBe();
         twentyCanBeUndone();
         theOldestAreLostAgainAndAgain();
         refusedOnesAreNotUndone();
@@ -353,6 +354,21 @@ public final class DoneEdgesTest {
         }
         CHECK.due("no more", x.undo(), Check.NOT);
         CHECK.same("as it was", Check.besieged(x), before[0]);
+    }
+
+    /** The same with as many companies and kinds of money as there can be, each paid by each and in words. */
+    private static void undoneOfAllThereCanBe() {
+        SiegePlate x = Check.townOf("t40 0;" + "c1 1 9;".repeat(5) + "m5 1 2;m5 3 4;m5 5 6;m5 7 8;" + "g9;".repeat(6));
+        String[] before = new String[8];
+        for (int day = 0; day < 8; day++) {
+            before[day] = Check.besieged(x);
+            x.day(day % 3, 1);
+        }
+        CHECK.due("four days in words", x.company(4, 4), 4);
+        for (int day = 7; day >= 0; day--) {
+            x.undo();
+            CHECK.same("as ahead of day " + day, Check.besieged(x), before[day]);
+        }
     }
 
     /** "(20 at most are kept, the oldest are lost)"; "how many more can be. NOT: none." */

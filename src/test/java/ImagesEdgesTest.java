@@ -9,6 +9,7 @@ public final class ImagesEdgesTest {
         twoImages();
         notKept();
         allOfSection2AndTheSeed();
+        allThereCanBe();
         nothingCanBeUndoneThen();
         keptAgain();
         goneBackAgain();
@@ -97,6 +98,21 @@ public final class ImagesEdgesTest {
             CHECK.due("its seed", Check.seedOf(x), 2147483647);
             CHECK.due("its trials", x.rations(2, Check.NONE), menLeft);
         }
+    }
+
+    /** The same with as many companies and kinds of money as there can be, each paid by each and in words. */
+    private static void allThereCanBe() {
+        SiegePlate x = Check.townOf("t40 0;" + "c1 1 9;".repeat(5) + "m5 1 2;m5 3 4;m5 5 6;m5 7 8;");
+        x.keep(0);
+        String first = Check.besieged(x);
+        x.day(0, 6);
+        x.keep(1);
+        String second = Check.besieged(x);
+        x.day(1, 2);
+        x.goBack(0);
+        CHECK.same("image 0", Check.besieged(x), first);
+        x.goBack(1);
+        CHECK.same("image 1", Check.besieged(x), second);
     }
 
     /** "(nothing can be undone then)": behind keep() and behind goBack(). */

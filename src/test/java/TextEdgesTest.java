@@ -34,6 +34,8 @@ public final class TextEdgesTest {
         theTextIsEmptyThen();
         aFaultLeavesAllElse();
         aTownBeginsAnew();
+        nothingPaidByAllToAll();
+        townsInARow();
         theSeedStays();
         faultOfTheLatestTown();
         the512thCallAnswers();
@@ -501,6 +503,45 @@ public final class TextEdgesTest {
             CHECK.due("no image 1", x.goBack(1), Check.NOT);
             x.day(0, 1);
             CHECK.due("no horse of the old town", x.told(0), 50);
+        }
+    }
+
+    /** "nothing paid": neither to any company nor of any kind, nor in words. */
+    private static void nothingPaidByAllToAll() {
+        String text = "t0 0;" + "c1 1 9;".repeat(5) + "m5 1 1;".repeat(4);
+        SiegePlate x = Check.townOf(text);
+        x.day(0, 5);
+        for (int c = 0; c < 5; c++) {
+            CHECK.due("one of each kind, and one in words", x.owed(c, 2), 5);
+        }
+        CHECK.due("town()", Check.becomes(x, text), 5);
+        for (int c = 0; c < 5; c++) {
+            for (int reading = 0; reading < 3; reading++) {
+                CHECK.due("nothing", x.owed(c, reading), 0);
+            }
+            CHECK.due("no words", x.company(c, 4), 0);
+        }
+        for (int m = 0; m < 4; m++) {
+            CHECK.due("all squares", x.money(m, 0), 5);
+        }
+        CHECK.due("least", x.least(0, 0), 0);
+    }
+
+    /** The same from town to town: nothing of an earlier one is left, nor of a text that had a fault. */
+    private static void townsInARow() {
+        String great = "t9 9;" + "c9 9 9;".repeat(5) + "m9 9 9;".repeat(4) + "g9;".repeat(6) + "h0 9;".repeat(4);
+        String[][] rows = {{great}, {great, great}, {great + "x"}, {great, great + "x"}, {great + "x", great}};
+        for (String last : new String[] {"", " ", "t1 2;", "t1 2;c3 1 9;m4 5 6;g7;"}) {
+            for (String[] row : rows) {
+                SiegePlate x = new SiegePlate();
+                for (String text : row) {
+                    Check.becomes(x, text);
+                }
+                SiegePlate fresh = new SiegePlate();
+                CHECK.due("town() of '" + last + "'", Check.becomes(x, last), Check.becomes(fresh, last));
+                CHECK.due("men", x.day(0, 2), fresh.day(0, 2));
+                CHECK.same("'" + last + "' behind " + row.length + " greater ones", Twins.later(x), Twins.later(fresh));
+            }
         }
     }
 

@@ -27,6 +27,7 @@ public final class TriedEdgesTest {
         holdsFrom0To60();
         rationsOfTrying();
         owedBeforeAnyPay();
+        owedDayByDay();
         readingsFrom0To2();
         leastFrom0To5Rioters();
         leastWithoutDebts();
@@ -333,6 +334,20 @@ public final class TriedEdgesTest {
         CHECK.due("nothing to nobody", x.owed(1, 0), 0);
         x.undo();
         CHECK.due("nothing again", x.owed(0, 0), 0);
+    }
+
+    /** "what was paid to it": on all days, also by the same kind again. */
+    private static void owedDayByDay() {
+        SiegePlate x = Check.townOf("t0 0;c2 1 9;m5 7 3;");
+        int[] squares = {2, 4, 4, 4};
+        int[] words = {0, 0, 2, 4};
+        for (int day = 0; day < 4; day++) {
+            x.day(0, 1);
+            CHECK.due("by stamp on day " + day, x.owed(0, 0), 7 * squares[day] + words[day]);
+            CHECK.due("by weight on day " + day, x.owed(0, 1), 3 * squares[day] + words[day]);
+            CHECK.due("as many on day " + day, x.owed(0, 2), squares[day] + words[day]);
+            CHECK.due("words on day " + day, x.company(0, 4), words[day]);
+        }
     }
 
     /** "0 by their stamp V, 1 by weight W, 2 as many as they are; words count 1 each by all"; "OUTSIDE (reading 0 .. 2)" */
