@@ -402,6 +402,14 @@ public final class TriedEdgesTest {
             CHECK.due("no company", bare.least(k, 1), 0);
             CHECK.due("no debts", unpaid.least(k, 2), 0);
         }
+        // nor is anything left of debts that an earlier town had
+        SiegePlate x = Check.townOf("t0 0;c9 9 9;");
+        x.day(0, 1);
+        CHECK.due("81 in words", x.least(0, 0), 81);
+        Check.becomes(x, "t0 0;");
+        CHECK.due("no company any more", x.least(1, 0), 0);
+        Check.becomes(x, "");
+        CHECK.due("no town any more", x.least(5, 0), 0);
     }
 
     /** "at a HUNGER h (0 .. 99) at which that COSTS just V of it" */
