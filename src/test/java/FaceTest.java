@@ -1,4 +1,5 @@
 import java.io.IOException;
+import java.lang.reflect.Array;
 import java.lang.reflect.Constructor;
 import java.lang.reflect.Field;
 import java.lang.reflect.Method;
@@ -7,6 +8,8 @@ import java.nio.file.Files;
 import java.nio.file.Path;
 import java.util.ArrayList;
 import java.util.Arrays;
+import java.util.Collections;
+import java.util.IdentityHashMap;
 import java.util.List;
 import java.util.Random;
 import java.util.Set;
@@ -30,6 +33,7 @@ public final class FaceTest {
         names();
         sizes();
         source();
+        room();
         anyCalls();
         CHECK.end();
     }
@@ -117,6 +121,65 @@ public final class FaceTest {
         for (int i = 0; i < text.length(); i++) {
             CHECK.due("sign " + i, text.charAt(i) < 128 ? 1 : 0, 1);
         }
+    }
+
+    /** Rule 12: an object takes little room, and all of it when it is made. */
+    private static void room() throws Exception {
+        SiegePlate x = new SiegePlate();
+        int[] before = roomOf(x);
+        CHECK.due(before[0] + " objects and arrays are few", before[0] > 300 ? 1 : 0, 0);
+        CHECK.due(before[1] + " fields and elements are few", before[1] > 3000 ? 1 : 0, 0);
+        Check.becomes(x, "t999 1;" + "c99 9 9;".repeat(5) + "m999 9 9;".repeat(4) + "g9;".repeat(6) + "h1 9;".repeat(4));
+        for (int i = 0; i < 24; i++) {
+            x.day(i % 4, 1);
+            x.drift(3, 1);
+            x.show(i % 4, 9, 9, 9);
+            x.write(i % 5, 9);
+            x.rations(5, 0);
+            x.least(i % 6, i % 3);
+            x.keep(i % 12 == 11 ? 1 : 2);
+        }
+        CHECK.same("room behind many calls", Arrays.toString(roomOf(x)), Arrays.toString(before));
+    }
+
+    /** How many objects and arrays hang on one, and how many fields and elements they have. */
+    private static int[] roomOf(Object root) throws Exception {
+        Set<Object> found = Collections.newSetFromMap(new IdentityHashMap<>());
+        List<Object> open = new ArrayList<>(List.of(root));
+        int cells = 0;
+        while (!open.isEmpty()) {
+            Object one = open.remove(open.size() - 1);
+            if (!found.add(one)) {
+                continue;
+            }
+            List<Object> parts = one.getClass().isArray() ? elementsOf(one) : valuesOf(one);
+            cells += parts.size();
+            for (Object part : parts) {
+                if (part.getClass().isArray() || part.getClass().getName().startsWith("SiegePlate")) {
+                    open.add(part);
+                }
+            }
+        }
+        return new int[] {found.size(), cells};
+    }
+
+    private static List<Object> elementsOf(Object array) {
+        List<Object> parts = new ArrayList<>();
+        for (int i = 0; i < Array.getLength(array); i++) {
+            parts.add(Array.get(array, i));
+        }
+        return parts;
+    }
+
+    private static List<Object> valuesOf(Object one) throws Exception {
+        List<Object> parts = new ArrayList<>();
+        for (Field f : one.getClass().getDeclaredFields()) {
+            if (!Modifier.isStatic(f.getModifiers())) {
+                f.setAccessible(true);
+                parts.add(f.get(one));
+            }
+        }
+        return parts;
     }
 
     /** Any arguments in any state, also beyond the 512th call. */
